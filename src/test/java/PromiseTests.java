@@ -126,26 +126,41 @@ public final class PromiseTests {
   // Promise 2
 
   private static void setFloor() {
-    CryptSums x = new CryptSums();
     for (int w = 2; w <= 6; w++) {
       for (int h = 2; h <= 6; h++) {
-        String where = "setFloor(" + w + ", " + h + ")";
-        due(where, x.setFloor(w, h), w * h);
-        counts(where, x, w * h, w, w * h, 0, w + h, 0, w + h, 0, 0);
-        corridor(where, x, w * h - 1, false, w * (h - 1), w);
-        corridor(where, x, w * h - 1, true, w - 1, h);
-        for (int cell = 0; cell < w * h; cell++) {
-          due(where + " stone", x.stone(cell), 0);
-          due(where + " sum across", x.setSum(cell, false, 9), 0);
-          due(where + " sum down", x.setSum(cell, true, 9), 0);
-          x.put(cell, 7);
-          if (cell % 3 == 0) {
-            x.pillar(cell);
-          }
-        }
-        due(where + " again", x.setFloor(w, h), w * h);
-        counts(where + " again", x, w * h, w, w * h, 0, w + h, 0, w + h, 0, 0);
+        layOverAnother(w, h);
       }
+    }
+    CryptSums x = floor(6, 6, 35);
+    x.setSum(0, true, 3);
+    due("a smaller one", x.setFloor(2, 2), 4);
+    due("a larger one", x.setFloor(5, 6), 30);
+    counts("a larger one", x, 30, 5, 30, 0, 11, 0, 11, 0, 0);
+  }
+
+  /** A new object for each, as one is promised for 512 calls. */
+  private static void layOverAnother(int w, int h) {
+    CryptSums x = new CryptSums();
+    String where = "setFloor(" + w + ", " + h + ")";
+    due(where, x.setFloor(w, h), w * h);
+    counts(where, x, w * h, w, w * h, 0, w + h, 0, w + h, 0, 0);
+    corridor(where, x, w * h - 1, false, w * (h - 1), w);
+    corridor(where, x, w * h - 1, true, w - 1, h);
+    for (int cell = 0; cell < w * h; cell++) {
+      due(where + " stone", x.stone(cell), 0);
+      due(where + " sum across", x.setSum(cell, false, 9), 0);
+      due(where + " sum down", x.setSum(cell, true, 9), 0);
+      x.put(cell, 7);
+      if (cell % 3 == 0) {
+        x.pillar(cell);
+      }
+    }
+    due(where + " again", x.setFloor(w, h), w * h);
+    counts(where + " again", x, w * h, w, w * h, 0, w + h, 0, w + h, 0, 0);
+    for (int cell = 0; cell < w * h; cell++) {
+      due(where + " again, stone", x.stone(cell), 0);
+      due(where + " again, sum across", x.setSum(cell, false, 0), 0);
+      due(where + " again, sum down", x.setSum(cell, true, 0), 0);
     }
   }
 
@@ -199,6 +214,14 @@ public final class PromiseTests {
     x.pillar(1);
     corridor("all is as it was", x, 2, false, 0, 4, 20, 0, 0, 1);
     due("the sum that waited is told", x.setSum(2, false, 0), 5);
+    x.setSum(7, false, 11);
+    x.setSum(7, true, 12);
+    x.pillar(7);
+    due("a pillar keeps the sum across", x.setSum(7, false, 13), 11);
+    due("a pillar keeps the sum down", x.setSum(7, true, 14), 12);
+    x.pillar(7);
+    due("so does the open cell, across", x.setSum(7, false, 0), 13);
+    due("so does the open cell, down", x.setSum(7, true, 0), 14);
   }
 
   // Promise 4

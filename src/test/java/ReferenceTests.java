@@ -34,10 +34,9 @@ public final class ReferenceTests {
   }
 
   private static void comparePartitions() {
-    CryptSums x = new CryptSums();
     Model m = new Model();
-    int[] edges = {Integer.MIN_VALUE, -1, Integer.MAX_VALUE};
     for (int cells = -1; cells <= 11; cells++) {
+      CryptSums x = new CryptSums();
       for (int sum = -1; sum <= 47; sum++) {
         int c = cells;
         int s = sum;
@@ -45,7 +44,8 @@ public final class ReferenceTests {
         compare("forced(" + c + ", " + s + ")", answer(() -> x.forced(c, s)), answer(() -> m.forced(c, s)));
       }
     }
-    for (int edge : edges) {
+    CryptSums x = new CryptSums();
+    for (int edge : new int[] {Integer.MIN_VALUE, -1, Integer.MAX_VALUE}) {
       compare("ways(" + edge + ", 5)", answer(() -> x.ways(edge, 5)), "IllegalArgumentException");
       compare("ways(2, " + edge + ")", answer(() -> x.ways(2, edge)), "IllegalArgumentException");
       compare("forced(" + edge + ", 5)", answer(() -> x.forced(edge, 5)), "IllegalArgumentException");
