@@ -273,7 +273,7 @@ public final class CryptSums {
     }
   }
 
-  /** Which sums so many different numbers of a set can make; a table, as the search asks without end. */
+  /** Which sums so many different numbers of a set can make; a table, as the search asks it at each try. */
   private static final class Partitions {
     private static final int SETS = 512;
     private static final int ROW = MOST_SIDE + 1;
