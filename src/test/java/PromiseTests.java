@@ -1,78 +1,6 @@
 /** For each promise: ordinary calls, the edges that the document names, and wrong calls. */
-public final class PromiseTests {
-  private static final int ALL = 1022;
-  private static final int[] NO_SIDES = {Integer.MIN_VALUE, -1, 0, 1, 7, 8, Integer.MAX_VALUE};
-  private static int wrong = 0;
-
-  interface Call {
-    Object call();
-  }
-
-  private static void due(String what, Object got, Object want) {
-    if (!want.equals(got)) {
-      wrong++;
-      System.out.println(what + " answered " + got + ", due is " + want);
-    }
-  }
-
-  /** The call throws just this, and changes nothing: the digest tells all that the object holds. */
-  private static void refused(CryptSums x, String what, Class<?> exception, Call call) {
-    long before = x.digest();
-    Object got;
-    try {
-      got = call.call();
-    } catch (RuntimeException e) {
-      got = e.getClass();
-    }
-    due(what, got, exception);
-    due(what + ", then digest()", x.digest(), before);
-  }
-
-  private static void noCell(CryptSums x, String what, Call call) {
-    refused(x, what, IndexOutOfBoundsException.class, call);
-  }
-
-  private static void noArgument(CryptSums x, String what, Call call) {
-    refused(x, what, IllegalArgumentException.class, call);
-  }
-
-  private static void noState(CryptSums x, String what, Call call) {
-    refused(x, what, IllegalStateException.class, call);
-  }
-
-  private static int[] noCells(CryptSums x) {
-    return new int[] {Integer.MIN_VALUE, -1, x.count(0), x.count(0) + 1, 36, Integer.MAX_VALUE};
-  }
-
-  private static int bits(int... numbers) {
-    int set = 0;
-    for (int number : numbers) {
-      set |= 1 << number;
-    }
-    return set;
-  }
-
-  private static CryptSums floor(int w, int h, int... pillars) {
-    CryptSums x = new CryptSums();
-    x.setFloor(w, h);
-    for (int cell : pillars) {
-      x.pillar(cell);
-    }
-    return x;
-  }
-
-  private static void counts(String where, CryptSums x, int... want) {
-    for (int what = 0; what < want.length; what++) {
-      due(where + " count(" + what + ")", x.count(what), want[what]);
-    }
-  }
-
-  private static void corridor(String where, CryptSums x, int cell, boolean down, int... want) {
-    for (int what = 0; what < want.length; what++) {
-      due(where + " corridor(" + cell + ", " + down + ", " + what + ")",
-          x.corridor(cell, down, what), want[what]);
-    }
-  }
+public final class PromiseTests extends Checks {
+  private static final int[] NO_SIDES = {LEAST, -1, 0, 1, 7, 8, MOST};
 
   public static void main(String[] args) {
     newObject();
@@ -102,10 +30,7 @@ public final class PromiseTests {
     mean();
     digest();
     freshAnswers();
-    System.out.println(wrong == 0 ? "PromiseTests: all as due" : "PromiseTests: " + wrong + " wrong");
-    if (wrong != 0) {
-      System.exit(1);
-    }
+    end("PromiseTests");
   }
 
   // Promise 1
@@ -242,7 +167,7 @@ public final class PromiseTests {
       noCell(x, "setSum(" + no + ", false, 5)", () -> x.setSum(no, false, 5));
       noCell(x, "setSum(" + no + ", true, 46)", () -> x.setSum(no, true, 46));
     }
-    for (int no : new int[] {Integer.MIN_VALUE, -1, 46, Integer.MAX_VALUE}) {
+    for (int no : new int[] {LEAST, -1, 46, MOST}) {
       noArgument(x, "setSum(0, true, " + no + ")", () -> x.setSum(0, true, no));
       noArgument(x, "setSum(3, false, " + no + ")", () -> x.setSum(3, false, no));
     }
@@ -264,7 +189,7 @@ public final class PromiseTests {
       noCell(x, "put(" + no + ", 5)", () -> x.put(no, 5));
       noCell(x, "put(" + no + ", 10)", () -> x.put(no, 10));
     }
-    for (int no : new int[] {Integer.MIN_VALUE, -1, 10, Integer.MAX_VALUE}) {
+    for (int no : new int[] {LEAST, -1, 10, MOST}) {
       noArgument(x, "put(1, " + no + ")", () -> x.put(1, no));
       noArgument(x, "put onto the pillar " + no, () -> x.put(4, no));
     }
@@ -386,7 +311,7 @@ public final class PromiseTests {
       noCell(x, "corridor(" + no + ", false, 0)", () -> x.corridor(no, false, 0));
       noCell(x, "corridor(" + no + ", true, 9)", () -> x.corridor(no, true, 9));
     }
-    for (int no : new int[] {Integer.MIN_VALUE, -1, 6, Integer.MAX_VALUE}) {
+    for (int no : new int[] {LEAST, -1, 6, MOST}) {
       noCell(x, "corridor(0, true, " + no + ")", () -> x.corridor(0, true, no));
       noCell(x, "corridor(7, false, " + no + ")", () -> x.corridor(7, false, no));
     }
@@ -506,7 +431,7 @@ public final class PromiseTests {
     counts("pillars alone", pillars, 4, 2, 0, 0, 0, 0, 0, 0, 0);
     CryptSums cross = floor(3, 3, 1, 3, 5, 7);
     counts("corridors of one cell", cross, 9, 3, 5, 0, 10, 0, 10, 0, 0);
-    for (int no : new int[] {Integer.MIN_VALUE, -1, 9, Integer.MAX_VALUE}) {
+    for (int no : new int[] {LEAST, -1, 9, MOST}) {
       noCell(x, "count(" + no + ")", () -> x.count(no));
     }
   }
@@ -534,10 +459,10 @@ public final class PromiseTests {
       }
     }
     due("all sets but the empty one", all, 511);
-    for (int no : new int[] {Integer.MIN_VALUE, -1, 0, 10, Integer.MAX_VALUE}) {
+    for (int no : new int[] {LEAST, -1, 0, 10, MOST}) {
       noArgument(x, "ways(" + no + ", 10)", () -> x.ways(no, 10));
     }
-    for (int no : new int[] {Integer.MIN_VALUE, -1, 0, 46, Integer.MAX_VALUE}) {
+    for (int no : new int[] {LEAST, -1, 0, 46, MOST}) {
       noArgument(x, "ways(2, " + no + ")", () -> x.ways(2, no));
     }
   }
@@ -557,20 +482,15 @@ public final class PromiseTests {
     due("forced(8, 40)", x.forced(8, 40), ALL & ~bits(5));
     due("forced(9, 45)", x.forced(9, 45), ALL);
     due("forced(9, 1)", x.forced(9, 1), 0);
-    for (int no : new int[] {Integer.MIN_VALUE, -1, 0, 10, Integer.MAX_VALUE}) {
+    for (int no : new int[] {LEAST, -1, 0, 10, MOST}) {
       noArgument(x, "forced(" + no + ", 10)", () -> x.forced(no, 10));
     }
-    for (int no : new int[] {Integer.MIN_VALUE, -1, 0, 46, Integer.MAX_VALUE}) {
+    for (int no : new int[] {LEAST, -1, 0, 46, MOST}) {
       noArgument(x, "forced(2, " + no + ")", () -> x.forced(2, no));
     }
   }
 
   // Promises 13 and 14
-
-  private static void found(String where, CryptSums x, int fillings, int tries) {
-    due(where + " fillings()", x.fillings(), fillings);
-    due(where + " tries()", x.tries(), tries);
-  }
 
   private static void fillings() {
     CryptSums single = floor(2, 2, 0, 1, 2);
@@ -648,12 +568,6 @@ public final class PromiseTests {
 
   // Promise 15
 
-  private static void solvedRow(String where, CryptSums x, int... want) {
-    for (int cell = 0; cell < want.length; cell++) {
-      due(where + " solved(" + cell + ")", x.solved(cell), want[cell]);
-    }
-  }
-
   private static void solved() {
     CryptSums x = floor(2, 2);
     x.setSum(0, false, 3);
@@ -663,12 +577,12 @@ public final class PromiseTests {
     due("so there is no first", x.solved(0), 0);
     x.setSum(2, false, 5);
     due("1, 2 above 4, 1 and 2, 1 above 3, 2", x.fillings(), 2);
-    solvedRow("the first of both", x, 1, 2, 4, 1);
+    solved("the first of both", x, 1, 2, 4, 1);
     for (int cell = 0; cell < 4; cell++) {
       due("nothing is changed", x.stone(cell), 0);
     }
     x.put(0, 2);
-    solvedRow("the second with its stone", x, 2, 1, 3, 2);
+    solved("the second with its stone", x, 2, 1, 3, 2);
     x.put(0, 1);
     x.put(1, 1);
     due("not well", x.solved(0), 0);
@@ -753,7 +667,7 @@ public final class PromiseTests {
       noCell(x, "would(" + no + ", 5)", () -> x.would(no, 5));
       noCell(x, "would(" + no + ", 0)", () -> x.would(no, 0));
     }
-    for (int no : new int[] {Integer.MIN_VALUE, -1, 0, 10, Integer.MAX_VALUE}) {
+    for (int no : new int[] {LEAST, -1, 0, 10, MOST}) {
       noArgument(x, "would(0, " + no + ")", () -> x.would(0, no));
       noArgument(x, "would on the pillar " + no, () -> x.would(5, no));
     }
