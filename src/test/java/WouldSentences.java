@@ -108,6 +108,30 @@ public final class WouldSentences extends Checks {
     due("one cell with its sum", one.fillings(), 1);
     one.setSum(2, true, 8);
     due("one cell with two sums", one.fillings(), 0);
+    fillingsAfterEachChange();
+  }
+
+  /** Asked ahead and again behind each call that changes the floor. */
+  private static void fillingsAfterEachChange() {
+    CryptSums x = floor(2, 2, 0, 1, 2);
+    found("one cell", x, 9, 9);
+    solved("one cell", x, 0, 0, 0, 1);
+    x.setSum(3, false, 4);
+    found("after setSum", x, 1, 9);
+    solved("after setSum", x, 0, 0, 0, 4);
+    x.force();
+    found("after force", x, 1, 0);
+    x.put(3, 5);
+    found("after put", x, 0, 0);
+    solved("after put", x, 0, 0, 0, 0);
+    x.pillar(3);
+    found("after pillar", x, 1, 0);
+    x.pillar(3);
+    found("after pillar again", x, 1, 9);
+    x.would(3, 5);
+    found("after would", x, 1, 9);
+    x.setFloor(2, 2);
+    found("after setFloor", x, 100, 146);
   }
 
   private static void fillingsAtMost() {
@@ -546,8 +570,9 @@ public final class WouldSentences extends Checks {
     CryptSums unknown = notKnown();
     unknown.would(1, 4);
     stones("not known", unknown, 0, 4, 0, 0, 0, 0, 0, 0, 0);
-    unknown.would(4, 9);
-    stones("and with another", unknown, 0, 4, 0, 0, 0, 0, 0, 0, 0);
+    unknown.put(1, 0);
+    due("not known with 4", unknown.would(1, 4), -1);
+    stones("and without a stone ahead", unknown, 0, 0, 0, 0, 0, 0, 0, 0, 0);
   }
 
   private static void wouldRefusesCells() {
