@@ -52,6 +52,7 @@ public final class FaceTests {
   public static void main(String[] args) throws IOException {
     face();
     hiddenMembers();
+    measures();
     source();
     System.out.println(wrong == 0 ? "FaceTests: all as due" : "FaceTests: " + wrong + " wrong");
     if (wrong != 0) {
@@ -118,6 +119,31 @@ public final class FaceTests {
     }
   }
 
+  /** Rules 3, 5 and 11 of LANGUAGE.md, as far as the class shows them. */
+  private static void measures() {
+    List<Class<?>> classes = new ArrayList<>(Arrays.asList(CryptSums.class.getDeclaredClasses()));
+    classes.add(CryptSums.class);
+    due("at most twelve classes", classes.size() <= 12, true);
+    for (Class<?> held : classes) {
+      int fields = 0;
+      for (Field field : held.getDeclaredFields()) {
+        boolean isConstant = Modifier.isStatic(field.getModifiers());
+        fields += isConstant ? 0 : 1;
+        due(field + " of a type for constants", !isConstant || field.getType().isPrimitive(), true);
+        due(field + " of a type that is told", isTold(field.getType(), classes), true);
+      }
+      due(held + " at most twenty fields", fields <= 20, true);
+      for (Method method : held.getDeclaredMethods()) {
+        due(method + " at most seven parameters", method.getParameterCount() <= 7, true);
+      }
+    }
+  }
+
+  private static boolean isTold(Class<?> type, List<Class<?>> own) {
+    Class<?> part = type.isArray() ? type.getComponentType() : type;
+    return part.isPrimitive() || own.contains(part);
+  }
+
   private static void source() throws IOException {
     byte[] bytes = Files.readAllBytes(Paths.get("src/main/java/CryptSums.java"));
     for (byte b : bytes) {
@@ -129,6 +155,22 @@ public final class FaceTests {
     String text = new String(bytes, StandardCharsets.US_ASCII);
     for (String part : LEFT_OUT) {
       due("the source has '" + part + "'", text.contains(part), false);
+    }
+    objectsMade(text);
+  }
+
+  /** Rule 12, kept more strictly: constructors make all objects, calls none but what they throw. */
+  private static void objectsMade(String text) {
+    boolean inConstructor = false;
+    for (String line : text.split("\n")) {
+      if (line.matches(" +(public )?[A-Z]\\w+\\(.*\\{")) {
+        inConstructor = true;
+      } else if (line.matches("  (  )?\\}")) {
+        inConstructor = false;
+      }
+      boolean makes = line.matches(".*\\bnew\\b.*") && !line.trim().startsWith("throw new ");
+      due("'" + line.trim() + "' makes an object in a call", makes && !inConstructor, false);
+      due("'" + line.trim() + "' throws in a constructor", inConstructor && line.contains("throw "), false);
     }
   }
 }
